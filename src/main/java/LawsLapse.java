@@ -10,7 +10,7 @@ public final class LawsLapse {
     private static final int MOST_PEOPLE = 4, MOST_TEXTS = 6, MOST_BYTES = 160, MOST_OPEN = 5;
     private static final int MOST_NUMBER = 9, LAST_YEAR = 999, LATEST_LAPSE = 40, YEARS_OF_CHANCE = 6;
     private static final int MOST_SERVED = 99, MOST_SITS = 99, MOST_COSTS = 999, MOST_COST = 99999;
-    private static final int LET_GO_FREELY = 1000, TOLD_YEARS = 100;
+    private static final int LET_GO_FREELY = 1000, TOLD_VALUES = 100;
     private static final int SHEETS = 4, MOST_CELLS = 40, BYTES = 0, SHORTS = 1, INTS = 2;
 
     private static final int CITIZEN = 0, POLICEMAN = 1, CLERK = 2, SPEAKER = 3, ANTIQUARY = 4, THIEF = 5;
@@ -382,7 +382,7 @@ public final class LawsLapse {
 
     private int howManyFit(Sheet told, int one, int varied) {
         int fitting = 0;
-        for (int value = 0; value < TOLD_YEARS; value++) {
+        for (int value = 0; value < TOLD_VALUES; value++) {
             thought.put(one, varied, value);
             if (thought.otherwise(told, one) == NONE) fitting++;
         }
@@ -390,7 +390,7 @@ public final class LawsLapse {
     }
 
     private int leastFitting(Sheet told, int one, int varied) {
-        for (int value = 0; value < TOLD_YEARS; value++) {
+        for (int value = 0; value < TOLD_VALUES; value++) {
             thought.put(one, varied, value);
             if (thought.otherwise(told, one) == NONE) return value;
         }
@@ -548,11 +548,12 @@ public final class LawsLapse {
 
         private int costs(int one, int deed) {
             int v = Math.max(0, Math.min(MOST_COSTS, texts.value(PART_HARMS, this, one, deed)));
+            int asClerk = Math.max(0, v - number[one]);
             switch (kind[one]) {
                 case POLICEMAN: return v / 2;
-                case CLERK: return Math.max(0, v - number[one]);
+                case CLERK: return asClerk;
                 case SPEAKER: return v / 2 + 5;
-                case ANTIQUARY: return Math.min(MOST_COSTS, Math.max(0, v - number[one]) + Integer.bitCount(breaks[deed]));
+                case ANTIQUARY: return Math.min(MOST_COSTS, asClerk + Integer.bitCount(breaks[deed]));
                 case THIEF: return Math.min(MOST_COSTS, 2 * v);
                 default: return v;
             }

@@ -231,6 +231,10 @@ public final class BestTest {
         Due.is(1000, x.letGo(1), "letGo(1)");
         x.set(3, 2, 8);
         Due.is(2, x.letGo(0), "the first of those that none breaks");
+        x.set(4, 0, 6);
+        Due.is(0, new LawsLapse().letGo(0), "the first of like ones");
+        Due.is(0, of(1, 9, 254, 8).letGo(0), "the first one");
+        Due.is(9, of(1, 9, 254, 8).letGo(1), "the first one");
         for (int law = 0; law < 8; law++) x.set(0, law, 0);
         Due.is(-1, x.letGo(0), "none is ALIVE");
         Due.is(-1, x.letGo(1), "none is ALIVE");

@@ -217,7 +217,16 @@ public final class PeopleTest {
         x.set(2, 0, 1);
         Due.is(1 + 2 + 8 + 16, x.told(3, 9), "a SPEAKER: as a POLICEMAN, if yes");
 
+        x.force(0);
+        Due.is(1023, x.told(0, 9), "a CITIZEN: all, by TEXT 0");
+        Due.is(1 + 2, x.told(2, 9), "a CLERK: what is below 20, by TEXT 0");
+
         LawsLapse y = new LawsLapse();
+        y.person(ANTIQUARY, 9);
+        for (int deed = 0; deed < 5; deed++) y.set(4, deed, harms[deed]);
+        Due.is(1023 - 4 - 8 - 16, y.told(0, 9), "an ANTIQUARY: what is below 20, by TEXT 0");
+
+        y = new LawsLapse();
         Due.rule(y, "dares harm-20; harms harm; sits 1;");
         for (int deed = 0; deed < 5; deed++) y.set(4, deed, harms[deed]);
         for (int deed = 5; deed < 10; deed++) y.set(4, deed, 20);

@@ -101,7 +101,8 @@ public final class TextsTest {
             {"dares 1 ?", 8}, {"dares 1/2;", 7}, {"dares 1>2;", 7}, {"dares {1};", 6}, {"dares `;", 6}, {"dares :;", 6},
             {"dares _;", 6}, {"dares dares;", 6}, {"dares 1 sits;", 8}, {"dares harms;", 6}, {"dares (1", 8}, {"dares (", 7},
             {"dares not", 9}, {"dares 1 or", 10}, {"dares 1;harms (2;", 16}, {"dares 1;harms 2 sits", 16}, {"dares\0 1;", 5},
-            {"dares 1 and and 1;", 12}, {"dares orx;", 6}, {"dares 1 orharm;", 8}, {"\u00ff", 0}, {"dares nota;", 6}};
+            {"dares 1 and and 1;", 12}, {"dares orx;", 6}, {"xares 1;", 0}, {"dares xarm;", 6}, {"dares bot 1;", 6}, {"dares 1 xr 1;", 8}, {"dares 1 ond 1;", 8},
+            {"dares sits 1);", 6}, {"dares sits;", 6}, {"dares 1;(harms 2;", 8}, {"dares (harms);", 7}, {"dares 1 orharm;", 8}, {"\u00ff", 0}, {"dares nota;", 6}};
         for (Object[] row : due) {
             LawsLapse x = new LawsLapse();
             Due.is(-100 - (Integer) row[1], Due.text(x, (String) row[0]), "text() of " + row[0]);
@@ -112,6 +113,19 @@ public final class TextsTest {
         LawsLapse x = new LawsLapse();
         for (int i = 0; i < 160; i++) x.feed(' ');
         Due.is(-260, x.text(), "text() of 160 blanks");
+        Due.is(-106, Due.text(x, "dares 12345;harmsharms;sits"), "a longer text");
+        Due.is(-107, Due.text(x, "dares 1"), "a NUMBER ends where THE TAPE does, whatever stood behind");
+        Due.is(-105, Due.text(x, "dares"), "a WORD ends where THE TAPE does");
+        Due.text(x, "aaaaaaaaaaaaaaaaaaaaaaaaaaaaaaaaa");
+        Due.is(-113, Due.text(x, "dares 1;harms"), "a WORD ends where THE TAPE does, whatever stood behind");
+        for (char last : new char[] {'a', '1', '(', ' ', 'z', '9'}) {
+            LawsLapse y = new LawsLapse();
+            for (int i = 0; i < 159; i++) y.feed(' ');
+            y.feed(last);
+            Due.is(last == ' ' ? -260 : -259, y.text(), "text() of 159 blanks and " + last);
+            for (int i = 0; i < 160; i++) y.feed(last);
+            Due.is(last == ' ' ? -260 : -100, y.text(), "text() of 160 times " + last);
+        }
         Due.is(-100, x.text(), "text() of nothing");
     }
 

@@ -1,3 +1,5 @@
+import java.util.Arrays;
+
 /** Promises 18 to 24: tells, film, drawn, chance, image, back, count. */
 public final class ToldTest {
     private static final int CITIZEN = 0, POLICEMAN = 1, CLERK = 2, SPEAKER = 3, ANTIQUARY = 4, THIEF = 5;
@@ -264,13 +266,14 @@ public final class ToldTest {
         for (int i = 0; i < 4; i++) y.person(POLICEMAN, 0);
         y.set(1, 0, 9);
         for (int s : new int[] {0, 1, -1, 12345, LEAST, MOST, 987654321}) {
-            for (int n = 0; n <= 20; n++) Due.is(plainlyDrawn(s, n), y.drawn(s, n), "drawn(" + s + ", " + n + ")");
+            for (int n = 0; n <= 20; n++) Due.is(plainlyDrawn(s, n, 2), y.drawn(s, n), "drawn(" + s + ", " + n + ")");
         }
     }
 
-    /** As drawn() where four POLICEMEN dare all and never SIT, TERM is 9, and DEEDS break but one LAW. */
-    private static int plainlyDrawn(int seed, int n) {
-        int[] left = {2, 2, 2, 2, 2, 2, 2, 2};
+    /** As drawn() where four POLICEMEN dare all and never SIT, TERM is 9, all LAWS have as many LEFT, and DEEDS break but one. */
+    private static int plainlyDrawn(int seed, int n, int years) {
+        int[] left = new int[8];
+        Arrays.fill(left, years);
         int last = seed;
         for (int i = 0; i < n; i++) {
             int z = last * 1103515245 + 12345;
@@ -281,7 +284,7 @@ public final class ToldTest {
             }
         }
         int alive = 0;
-        for (int years : left) alive += years > 0 ? 1 : 0;
+        for (int still : left) alive += still > 0 ? 1 : 0;
         return alive;
     }
 
@@ -290,11 +293,13 @@ public final class ToldTest {
         LawsLapse x = new LawsLapse();
         for (int i = 0; i < 4; i++) x.person(POLICEMAN, 0);
         x.set(1, 0, 9);
-        for (int seed : new int[] {0, 77, MOST - 5, LEAST, -10}) {
+        for (int seed : new int[] {0, 77, MOST - 5, LEAST, -10, 4711, 65536}) {
+            int years = 5 + Math.floorMod(seed, 3);
+            for (int law = 0; law < 8; law++) x.set(0, law, years);
             for (int m = 1; m <= 20; m++) {
                 for (int k = 0; k <= 8; k++) {
                     int above = 0;
-                    for (int i = 0; i < m; i++) above += plainlyDrawn(seed + i, 6) >= k ? 1 : 0;
+                    for (int i = 0; i < m; i++) above += plainlyDrawn(seed + i, 6, years) >= k ? 1 : 0;
                     int by = m;
                     while (above % by != 0 || m % by != 0) by--;
                     String call = "chance(" + seed + ", " + m + ", " + k + ", ";
