@@ -27,6 +27,8 @@ public final class LawsLapse {
 
     /** The parts of a TEXT. */
     private static final int PART_DARES = 0, PART_HARMS = 1, PART_SITS = 2, PARTS = 3;
+    /** What a part tells is 0 at least, and this at most. */
+    private static final int[] MOST_TOLD = {999, MOST_COSTS, MOST_SITS};
 
     /** Tokens; those below NAME_HARM are the NUMBERS themselves. Those up to NEGATE also stand in what is read. */
     private static final int NAME_HARM = 10000, NAME_LAWS = 10001, NAME_NUMBER = 10002;
@@ -547,7 +549,7 @@ public final class LawsLapse {
         }
 
         private int costs(int one, int deed) {
-            int v = Math.max(0, Math.min(MOST_COSTS, texts.value(PART_HARMS, this, one, deed)));
+            int v = texts.value(PART_HARMS, this, one, deed);
             int asClerk = Math.max(0, v - number[one]);
             switch (kind[one]) {
                 case POLICEMAN: return v / 2;
@@ -561,7 +563,7 @@ public final class LawsLapse {
 
         /** For how many years one SITS by a DEED. */
         private int sentence(int one, int deed) {
-            int v = Math.max(0, Math.min(MOST_SITS, texts.value(PART_SITS, this, one, deed)));
+            int v = texts.value(PART_SITS, this, one, deed);
             switch (kind[one]) {
                 case POLICEMAN: return 0;
                 case CLERK: return Math.min(3, v);
@@ -777,7 +779,7 @@ public final class LawsLapse {
             ends[0][PART_SITS] = 3;
         }
 
-        /** What a part of THE RULE says of one and a DEED. */
+        /** What a part of THE RULE tells of one and a DEED, within its bounds. */
         private int value(int part, Republic of, int one, int deed) {
             int[] row = code[of.rule];
             int[] itsEnds = ends[of.rule];
@@ -798,7 +800,7 @@ public final class LawsLapse {
                     stack[top - 1] = joined(token, stack[top - 1], stack[top]);
                 }
             }
-            return stack[0];
+            return Math.max(0, Math.min(MOST_TOLD[part], stack[0]));
         }
 
         private static int fact(int name, Republic of, int one, int deed) {

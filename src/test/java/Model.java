@@ -282,7 +282,7 @@ final class Model {
     }
 
     private boolean daresAs(String kind, World w, Person p, Deed d) {
-        boolean yes = texts.get(w.rule)[0].of(w, p, d) != 0;
+        boolean yes = bound(texts.get(w.rule)[0].of(w, p, d), 999) != 0;
         switch (kind) {
             case "CITIZEN": return yes;
             case "POLICEMAN": return yes || p.number < 8 && d.breaks.contains(p.number);

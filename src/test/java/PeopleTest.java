@@ -11,6 +11,8 @@ public final class PeopleTest {
         told();
         dares();
         daresByTheText();
+        daresWithinItsBounds();
+        daresBelowZeroEverywhere();
         costs();
         sits();
         asksRefuses();
@@ -205,17 +207,22 @@ public final class PeopleTest {
     private static void daresByTheText() {
         Due.of("promise 5, DARES");
         LawsLapse x = new LawsLapse();
-        Due.rule(x, "dares harm-20; harms harm; sits 1;");
+        Due.rule(x, "dares 20-harm; harms harm; sits 1;");
         int[] harms = {0, 19, 20, 21, 99};
         for (int deed = 0; deed < 5; deed++) x.set(4, deed, harms[deed]);
         for (int deed = 5; deed < 10; deed++) x.set(4, deed, 20);
         for (int kind = 0; kind < 4; kind++) x.person(kind, 9);
-        Due.is(1 + 2 + 8 + 16, x.told(0, 9), "a CITIZEN: what isn't 0 is yes, below 0 too");
-        Due.is(1 + 2 + 8 + 16, x.told(1, 9), "a POLICEMAN: if yes");
-        Due.is(1 + 2, x.told(2, 9), "a CLERK: and HARM of it is below 20");
-        Due.is(1 + 2 + 8 + 16, x.told(3, 9), "a SPEAKER: else if yes");
+        Due.is(1 + 2, x.told(0, 9), "a CITIZEN: what isn't 0 is yes; what is below 0 tells 0");
+        Due.is(1 + 2, x.told(1, 9), "a POLICEMAN: if yes");
+        Due.is(1 + 2, x.told(2, 9), "a CLERK: if yes");
+        Due.is(1 + 2, x.told(3, 9), "a SPEAKER: else if yes");
         x.set(2, 0, 1);
-        Due.is(1 + 2 + 8 + 16, x.told(3, 9), "a SPEAKER: as a POLICEMAN, if yes");
+        Due.is(1 + 2, x.told(3, 9), "a SPEAKER: as a POLICEMAN, if yes");
+        Due.rule(x, "dares harm-20; harms harm; sits 1;");
+        Due.is(8 + 16, x.told(0, 9), "a CITIZEN: what isn't 0 is yes; what is below 0 tells 0");
+        Due.is(8 + 16, x.told(1, 9), "a POLICEMAN: if yes");
+        Due.is(0, x.told(2, 9), "a CLERK: and HARM of it is below 20");
+        Due.is(8 + 16, x.told(3, 9), "a SPEAKER: as a POLICEMAN, if yes");
 
         x.force(0);
         Due.is(1023, x.told(0, 9), "a CITIZEN: all, by TEXT 0");
@@ -227,13 +234,79 @@ public final class PeopleTest {
         Due.is(1023 - 4 - 8 - 16, y.told(0, 9), "an ANTIQUARY: what is below 20, by TEXT 0");
 
         y = new LawsLapse();
-        Due.rule(y, "dares harm-20; harms harm; sits 1;");
+        Due.rule(y, "dares 20-harm; harms harm; sits 1;");
         for (int deed = 0; deed < 5; deed++) y.set(4, deed, harms[deed]);
         for (int deed = 5; deed < 10; deed++) y.set(4, deed, 20);
         y.person(ANTIQUARY, 9);
         y.person(THIEF, 9);
         Due.is(1 + 2, y.told(0, 9), "an ANTIQUARY: as a CLERK");
-        Due.is(1 + 2 + 8 + 16, y.told(1, 9), "a THIEF: else if yes");
+        Due.is(1 + 2, y.told(1, 9), "a THIEF: else if yes");
+        Due.rule(y, "dares harm-20; harms harm; sits 1;");
+        Due.is(0, y.told(0, 9), "an ANTIQUARY: as a CLERK");
+        Due.is(8 + 16, y.told(1, 9), "a THIEF: else if yes");
+    }
+
+    /** What dares tells is 0 .. 999, else the bound: nothing below 0 is yes, wherever a DEED is DARED. */
+    private static void daresWithinItsBounds() {
+        Due.of("promise 5, dares (0 .. 999, else the bound)");
+        String[] texts = {"-1", "-999", "-1000", "0", "--0", "1-2", "0-(1=1)", "9999*9999*22", "-(9999*9999*43)", "1", "--1", "999", "1000",
+            "9999", "-1<0", "-1 or 0", "not 0", "not -1", "not (-1<0)", "-1 and -1", "-1*-1", "-1*1"};
+        int[] yes = {0, 0, 0, 0, 0, 0, 0, 0, 0, 1, 1, 1, 1, 1, 1, 1, 1, 0, 0, 1, 1, 0};
+        for (int i = 0; i < texts.length; i++) {
+            for (int kind = 0; kind < 6; kind++) {
+                LawsLapse x = new LawsLapse();
+                Due.rule(x, "dares " + texts[i] + "; harms harm; sits 0;");
+                x.person(kind, 9);
+                String of = "KIND " + kind + ", dares " + texts[i];
+                Due.is(yes[i], x.asks(0, 0, 0), "asks: " + of);
+                Due.is(yes[i] * 1023, x.told(0, 9), "told: " + of);
+            }
+        }
+        LawsLapse x = new LawsLapse();
+        Due.rule(x, "dares 0-9999*9999*22-9999*9999*22; harms harm; sits 0;");
+        x.person(CITIZEN, 0);
+        int wraps = -9999 * 9999 * 22 - 9999 * 9999 * 22;
+        Due.is(wraps > 0 ? 1 : 0, x.asks(0, 0, 0), "an int that wraps");
+    }
+
+    private static void daresBelowZeroEverywhere() {
+        Due.of("a dares below 0 tells 0");
+        LawsLapse x = new LawsLapse();
+        Due.rule(x, "dares year-1; harms 7; sits 0;");
+        x.person(CITIZEN, 0);
+        Due.is(0, x.asks(0, 0, 0), "asks");
+        Due.is(7, x.asks(0, 0, 1), "what it COSTS");
+        Due.is(0, x.told(0, 9), "told");
+        Due.is(-3, x.does(0, 0), "does");
+        Due.is(0, x.told(0, 11), "BROKEN, unchanged");
+        Due.is(0, x.run(2, 2), "run: none in YEARS 0 and 1");
+        Due.is(0, x.run(2, 0), "run: all LAPSE");
+        Due.is(2, x.lasts(0), "lasts");
+        Due.is(0, x.rota(0), "rota");
+        Due.is(0, x.rota(1), "rota");
+        for (int seed = 0; seed < 200; seed++) Due.is(0, x.drawn(seed, 2), "drawn(" + seed + ", 2)");
+        Due.is(0, x.chance(1, 20, 1, 0), "chance");
+        Due.is(0, x.film(0, 0), "film");
+        Due.tell(x, 1, -1, -1, -1);
+        Due.is(-1, x.tells(1, 0, 0), "tells: the first that is otherwise");
+        Due.is(2, x.tells(1, 0, 3), "tells: YEARS 0 and 1");
+        Due.is(0, x.tells(1, 0, 4), "tells: the least YEAR");
+        Due.is(1, x.tells(1, 0, 8), "tells: PEOPLE");
+        x.set(2, 0, 2);
+        Due.is(1, x.asks(0, 0, 0), "asks in YEAR 2");
+        Due.is(1, x.does(0, 0), "does in YEAR 2");
+        Due.is(10, x.film(0, 0), "film in YEAR 2");
+
+        int[] due = {0, 4, 0, 4, 64, 2};
+        for (int kind = 0; kind < 6; kind++) {
+            LawsLapse z = new LawsLapse();
+            Due.rule(z, "dares -1; harms 7; sits 0;");
+            z.person(kind, 2);
+            z.set(3, 1, 0);
+            z.set(2, 0, 1);
+            z.set(0, 6, 1);
+            Due.is(due[kind], z.told(0, 9), "what KIND " + kind + " DARES of itself");
+        }
     }
 
     private static void costs() {
