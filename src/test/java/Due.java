@@ -19,6 +19,11 @@ final class Due {
         System.out.println(of + ": " + call + " answered " + got + ", due is " + want);
     }
 
+    /** How many answers were looked at so far. */
+    static int asked() {
+        return asked;
+    }
+
     /** What text() answers of a text, fed first. */
     static int text(LawsLapse x, String text) {
         for (int i = 0; i < text.length(); i++) {

@@ -13,19 +13,6 @@ public final class HostTest {
         Due.end("HostTest");
     }
 
-    /** Item by item, what a SHEET of NUMBERS holds: each is read as the NUMBER of a CITIZEN. */
-    private static void holds(LawsLapse x, int sheet, int sort, int... numbers) {
-        x.sheet(3, sort, 2);
-        for (int i = 0; i < numbers.length; i++) {
-            Due.is(1, x.copy(sheet, i, 3, 1, 1), "copy of item " + i);
-            x.image();
-            Due.is(1, x.republic(3, sort, 0, 1), "republic by item " + i);
-            Due.is(numbers[i], x.told(0, 5), "item " + i);
-            x.back();
-            Due.is(0, x.count(0), "nobody again");
-        }
-    }
-
     private static void sheet() {
         Due.of("promise 25");
         LawsLapse x = new LawsLapse();
@@ -53,7 +40,7 @@ public final class HostTest {
         x.sheet(0, 2, 4);
         for (int i = 0; i < 4; i++) x.cell(0, i, 5);
         x.sheet(0, 2, 4);
-        holds(x, 0, 2, 0, 0, 0, 0);
+        Given.holds(x, 0, 2, 0, 0, 0, 0);
         Due.is(1, x.sheet(3, 0, 1), "the last SHEET");
     }
 
@@ -85,17 +72,17 @@ public final class HostTest {
             x.sheet(1, sort, 4);
             for (int i = 0; i < 6; i++) x.cell(0, i, i + 1);
             Due.is(3, x.copy(0, 2, 1, 1, 3), "copy(0, 2, 1, 1, 3)");
-            holds(x, 1, sort, 0, 3, 4, 5);
-            holds(x, 0, sort, 1, 2, 3, 4, 5, 6);
+            Given.holds(x, 1, sort, 0, 3, 4, 5);
+            Given.holds(x, 0, sort, 1, 2, 3, 4, 5, 6);
             Due.is(4, x.copy(0, 0, 0, 1, 4), "copy(0, 0, 0, 1, 4): as they were");
-            holds(x, 0, sort, 1, 1, 2, 3, 4, 6);
+            Given.holds(x, 0, sort, 1, 1, 2, 3, 4, 6);
             Due.is(4, x.copy(0, 2, 0, 0, 4), "copy(0, 2, 0, 0, 4): as they were");
-            holds(x, 0, sort, 2, 3, 4, 6, 4, 6);
+            Given.holds(x, 0, sort, 2, 3, 4, 6, 4, 6);
             Due.is(6, x.copy(0, 0, 0, 0, 6), "copy(0, 0, 0, 0, 6)");
             Due.is(0, x.copy(0, 6, 1, 4, 0), "copy of none, at both ends");
             Due.is(0, x.copy(0, 0, 1, 0, 0), "copy of none");
-            holds(x, 0, sort, 2, 3, 4, 6, 4, 6);
-            holds(x, 1, sort, 0, 3, 4, 5);
+            Given.holds(x, 0, sort, 2, 3, 4, 6, 4, 6);
+            Given.holds(x, 1, sort, 0, 3, 4, 5);
         }
     }
 

@@ -290,10 +290,10 @@ public final class ToldTest {
 
     private static void chance() {
         Due.of("promise 21");
-        LawsLapse x = new LawsLapse();
-        for (int i = 0; i < 4; i++) x.person(POLICEMAN, 0);
-        x.set(1, 0, 9);
         for (int seed : new int[] {0, 77, MOST - 5, LEAST, -10, 4711, 65536}) {
+            LawsLapse x = new LawsLapse();
+            for (int i = 0; i < 4; i++) x.person(POLICEMAN, 0);
+            x.set(1, 0, 9);
             int years = 5 + Math.floorMod(seed, 3);
             for (int law = 0; law < 8; law++) x.set(0, law, years);
             for (int m = 1; m <= 20; m++) {
@@ -308,6 +308,7 @@ public final class ToldTest {
                 }
             }
         }
+        LawsLapse x = new LawsLapse();
         Due.is(1, x.chance(3, 20, 0, 0), "all of them");
         Due.is(1, x.chance(3, 20, 0, 1), "all of them");
         int[][] wrong = {{0, 0, 0}, {21, 0, 0}, {1, -1, 0}, {1, 9, 0}, {1, 0, -1}, {1, 0, 2}, {LEAST, 0, 0}, {MOST, 0, 0},
