@@ -96,6 +96,10 @@ public final class EdgeBestTest {
         fewest(x, 255, 1 + 16 + 32, 3);
         covers(x, 7, 4 + 8 + 16, 12);
         fewest(x, 7, 1 + 16, 2);
+        LawsLapse last = Given.deeds(new LawsLapse());
+        last.set(3, 9, 8);
+        covers(last, 8, 512, 50);
+        fewest(last, 8, 512, 1);
         LawsLapse y = deeds();
         for (int deed = 0; deed < 10; deed++) y.set(3, deed, deed < 8 ? 1 << deed : 0);
         for (int deed = 0; deed < 10; deed++) y.set(4, deed, 99);
@@ -256,6 +260,9 @@ public final class EdgeBestTest {
         savesAre(x, 9, 1, 2);
         Due.is(0, x.told(0, 11), "BROKEN, unchanged");
         Due.is(0, x.told(0, 12), "COST, unchanged");
+        LawsLapse last = deeds();
+        last.set(3, 9, 8);
+        savesAre(last, 2, 9, 1);
         LawsLapse y = Given.left(Given.people(CITIZEN, 0), 1, 1, 0, 0, 0, 0, 0, 0);
         savesAre(y, 1, 0, 2);
         y.does(0, 1);
@@ -310,6 +317,11 @@ public final class EdgeBestTest {
         y.set(4, 0, 0);
         Due.is(0, y.letGo(0), "letGo(0): all alike, by 0");
         Due.is(0, y.letGo(1), "letGo(1): all alike, by 0");
+        LawsLapse last = deeds(254, 3);
+        last.set(3, 9, 1);
+        last.set(4, 9, 2);
+        Due.is(1, last.letGo(0), "letGo(0): the last DEED breaks LAW 0");
+        Due.is(3, last.letGo(1), "letGo(1): the last DEED breaks LAW 0");
         Due.is(0, deeds().letGo(0), "letGo(0): none breaks any");
         Due.is(1000, deeds().letGo(1), "letGo(1): none breaks any");
     }

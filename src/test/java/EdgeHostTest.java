@@ -70,6 +70,13 @@ public final class EdgeHostTest {
             Due.is(1, x.sheet(0, sort, 40), "sheet(0, " + sort + ", 40): the most");
             Due.is(1, x.cell(0, 39, 1), "cell(0, 39, 1)");
             Due.is(-12, x.cell(0, 40, 1), "cell(0, 40, 1)");
+            for (int i = 0; i < 40; i++) x.cell(0, i, 7);
+            x.sheet(1, sort, 10);
+            for (int i = 0; i < 40; i += 10) {
+                Due.is(1, x.sheet(0, sort, 40), "sheet(0, " + sort + ", 40) over another");
+                Due.is(10, x.copy(0, i, 1, 0, 10), "copy(0, " + i + ", 1, 0, 10)");
+                Given.holds(x, 1, sort, 0, 0, 0, 0, 0, 0, 0, 0, 0, 0);
+            }
         }
     }
 

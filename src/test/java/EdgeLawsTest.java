@@ -419,13 +419,13 @@ public final class EdgeLawsTest {
 
     // ---- the Terms: what DEEDS cost by KINDS
 
-    /** What a DEED that breaks two LAWS, of which one is LAPSED, COSTS one by what harms tells. */
+    /** What DEED 9, which breaks two LAWS, of which one is LAPSED, COSTS the second of PEOPLE by what harms tells. */
     private static void costs(int kind, int number, int... harmsAndDue) {
         for (int i = 0; i < harmsAndDue.length; i += 2) {
-            LawsLapse x = Given.ruled("dares 1;harms " + harmsAndDue[i] + ";sits 1;", kind, number);
-            x.set(3, 0, 1 + 2);
+            LawsLapse x = Given.ruled("dares 1;harms " + harmsAndDue[i] + ";sits 1;", CITIZEN, 5, kind, number);
+            x.set(3, 9, 1 + 2);
             x.set(0, 0, 0);
-            Due.is(harmsAndDue[i + 1], x.asks(0, 0, 1), "asks(0, 0, 1) of NUMBER " + number + ", harms " + harmsAndDue[i]);
+            Due.is(harmsAndDue[i + 1], x.asks(1, 9, 1), "asks(1, 9, 1) of NUMBER " + number + ", harms " + harmsAndDue[i]);
         }
     }
 
@@ -480,12 +480,15 @@ public final class EdgeLawsTest {
 
     // ---- the Terms: how long KINDS sit
 
+    /** For how long the second of PEOPLE SITS by DEED 8, which alone is of HARM 0, by what sits tells. */
     private static void sits(int kind, int number, int... sitsAndDue) {
         for (int i = 0; i < sitsAndDue.length; i += 2) {
-            LawsLapse x = Given.ruled("dares 1;harms 1;sits " + sitsAndDue[i] + ";", kind, number);
-            Due.is(sitsAndDue[i + 1], x.asks(0, 0, 2), "asks(0, 0, 2) of NUMBER " + number + ", sits " + sitsAndDue[i]);
-            x.does(0, 0);
-            Due.is(sitsAndDue[i + 1], x.told(0, 6), "told(0, 6) of NUMBER " + number + ", sits " + sitsAndDue[i]);
+            LawsLapse x = Given.ruled("dares 1;harms 1;sits " + sitsAndDue[i] + "+100*harm;", CITIZEN, 9 - number, kind, number);
+            x.set(4, 8, 0);
+            Due.is(sitsAndDue[i + 1], x.asks(1, 8, 2), "asks(1, 8, 2) of NUMBER " + number + ", sits " + sitsAndDue[i]);
+            x.does(1, 8);
+            Due.is(sitsAndDue[i + 1], x.told(1, 6), "told(1, 6) of NUMBER " + number + ", sits " + sitsAndDue[i]);
+            Due.is(0, x.told(0, 6), "told(0, 6) of another");
         }
     }
 

@@ -53,6 +53,10 @@ public final class EdgeTextsTest {
         Due.is(1, x.text(), "text() of 160 bytes");
         x.force(1);
         Due.is(15, x.asks(0, 0, 1), "asks(0, 0, 1) by it");
+        String longest = "dares 1;harms " + "1+".repeat(68) + "13;sits 1;";
+        LawsLapse y = Given.ruled(longest, CITIZEN, 0);
+        Due.is(160, longest.length(), "bytes of a text without a blank that needn't be there");
+        Due.is(81, y.asks(0, 0, 1), "asks(0, 0, 1) by a text of 160 bytes");
         String last = blanks(160 - text.length()) + text;
         Due.is(2, Due.text(x, last), "text() whose last byte is byte 159");
     }
@@ -128,6 +132,31 @@ public final class EdgeTextsTest {
         isFault(16, "dares 1;harms 1;");
         isFault(6, "dares ;harms 1;sits 1;");
         isFault(8, "dares 1 harms 1;sits 1;");
+    }
+
+    @Says(of = "Terms 1", text = "E: AND { or AND }. AND: NOT { and NOT }.")
+    static void chainsAreLong() {
+        tells(1, "0or".repeat(45) + "5");
+        tells(0, "0or".repeat(45) + "0");
+        tells(1, "1and".repeat(34) + "5");
+        tells(0, "1and".repeat(34) + "0");
+        tells(1, "0 or 1 and 1");
+        tells(1, "1 or 0 and 0");
+        tells(0, "(1 or 0) and 0");
+    }
+
+    @Says(of = "Terms 1", text = "SUM: TERM { + or - TERM }. TERM: ONE { * ONE }. ONE: a NUMBER, a NAME, - ONE, ( E ).")
+    static void sumsAreLong() {
+        tells(5, "1-1+".repeat(27) + "5");
+        tells(7, "1*".repeat(60) + "7");
+        tells(2, "9-3-4");
+        tells(10, "9-(3-4)");
+        tells(14, "2+3*4");
+        tells(20, "(2+3)*4");
+        tells(6, "-2*-3");
+        String within = "0or 1and 1<1+1*(";
+        tells(1, within.repeat(5) + "harm" + ")".repeat(5));
+        tells(0, within.repeat(5) + "harm-12" + ")".repeat(5));
     }
 
     @Says(of = "Terms 1", text = "NOT: not NOT, or SUM, perhaps < or = and a SUM.")

@@ -192,6 +192,10 @@ public final class EdgeYearsTest {
         x.set(6, 2, 1);
         Due.is(0, x.run(1, 2), "run(1, 2): all SIT");
         Due.is(0, x.run(1, 0), "run(1, 0): all LAPSE");
+        LawsLapse last = Given.deeds(Given.people(CITIZEN, 0));
+        last.set(3, 9, 128);
+        Due.is(20, last.run(20, 2), "run(20, 2): the last DEED alone is of use");
+        Due.is(128, last.run(20, 0), "run(20, 0): the last DEED alone is of use");
     }
 
     @Says(of = "Terms 2", text = "what is ALIVE then (bits), COST, how many DEEDS are DONE in them.")
