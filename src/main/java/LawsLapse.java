@@ -17,7 +17,7 @@ public final class LawsLapse {
     private static final int KINDS = 6;
     private static final int[] PARENT = {NONE, CITIZEN, CITIZEN, POLICEMAN, CLERK, CITIZEN};
 
-    /** What set() and told() name by these numbers, with the bounds of what can be set. */
+    /** The numbers by which set() and told() name these; those of set() index the bounds below, too. */
     private static final int LEFT = 0, TERM = 1, YEAR = 2, BREAKS = 3, HARM = 4, NUMBER = 5, SITS = 6, SERVED = 7;
     private static final int KIND = 8, CAN_DO = 9, ALIVE = 10, BROKEN = 11, COST = 12;
     private static final int[] LOWEST = {0, 1, 0, 0, 0, 0, 0, 0};
@@ -25,12 +25,12 @@ public final class LawsLapse {
     /** No set() does this one: it is what else tells() varies. */
     private static final int RULE = 13;
 
-    /** The parts of a TEXT. */
+    /** Numbered as a TEXT has them, since Tape reads them in that order. */
     private static final int PART_DARES = 0, PART_HARMS = 1, PART_SITS = 2, PARTS = 3;
-    /** What a part tells is 0 at least, and this at most. */
+    /** By parts; the other bound is 0 for all. */
     private static final int[] MOST_TOLD = {999, MOST_COSTS, MOST_SITS};
 
-    /** Tokens; those below NAME_HARM are the NUMBERS themselves. Those up to NEGATE also stand in what is read. */
+    /** Tokens begin above the greatest NUMBER, so that an int below NAME_HARM can be that NUMBER itself. */
     private static final int NAME_HARM = 10000, NAME_LAWS = 10001, NAME_NUMBER = 10002;
     private static final int NAME_YEAR = 10003, NAME_SERVED = 10004, NAME_ALIVE = 10005;
     private static final int OR = 10006, AND = 10007, LESS = 10008, SAME = 10009;
@@ -75,7 +75,7 @@ public final class LawsLapse {
         switch (what) {
             case 0: return now.dares(one, deed) ? 1 : 0;
             case 1: return now.costs(one, deed);
-            case 2: return now.sentence(one, deed);
+            case 2: return now.yearsFor(one, deed);
             default: return BAD;
         }
     }
@@ -204,7 +204,7 @@ public final class LawsLapse {
         if (told.size > DEEDS) return BAD;
         thought.takeFrom(now);
         switch (what) {
-            case 0: return now.otherwise(told, one);
+            case 0: return now.firstOtherwise(told, one);
             case 1: return fittingBits(told, one, KIND, KINDS);
             case 2: return fittingBits(told, one, NUMBER, MOST_NUMBER + 1);
             case 3: return howManyFit(told, one, YEAR);
@@ -347,7 +347,7 @@ public final class LawsLapse {
         return within(sheet, 0, SHEETS - 1) ? sheets[sheet] : null;
     }
 
-    /** Whether there is that of which set() and told() speak. */
+    /** Some stand for the republic as a whole: of does not matter for these. */
     private boolean stands(int of, int what) {
         switch (what) {
             case LEFT: return isLaw(of);
@@ -358,7 +358,7 @@ public final class LawsLapse {
         }
     }
 
-    /** How many LAWS are ALIVE behind n YEARS if nobody does this DEED first, or none is. */
+    /** The DEED may be NONE, so that what would be without any is told in the same way. */
     private int aliveBehind(int n, int deed) {
         thought.takeFrom(now);
         if (deed != NONE) thought.breakBy(deed);
@@ -372,12 +372,12 @@ public final class LawsLapse {
         return Integer.bitCount(thought.alive);
     }
 
-    /** Of all values below a bound of what is varied of one, those by which it is as told; in thought. */
+    /** Varied in thought alone, which each question of tells() takes anew: so nothing need be put back. */
     private int fittingBits(Sheet told, int one, int varied, int bound) {
         int fitting = 0;
         for (int value = 0; value < bound; value++) {
             thought.put(one, varied, value);
-            if (thought.otherwise(told, one) == NONE) fitting |= 1 << value;
+            if (thought.firstOtherwise(told, one) == NONE) fitting |= 1 << value;
         }
         return fitting;
     }
@@ -386,7 +386,7 @@ public final class LawsLapse {
         int fitting = 0;
         for (int value = 0; value < TOLD_VALUES; value++) {
             thought.put(one, varied, value);
-            if (thought.otherwise(told, one) == NONE) fitting++;
+            if (thought.firstOtherwise(told, one) == NONE) fitting++;
         }
         return fitting;
     }
@@ -394,7 +394,7 @@ public final class LawsLapse {
     private int leastFitting(Sheet told, int one, int varied) {
         for (int value = 0; value < TOLD_VALUES; value++) {
             thought.put(one, varied, value);
-            if (thought.otherwise(told, one) == NONE) return value;
+            if (thought.firstOtherwise(told, one) == NONE) return value;
         }
         return NONE;
     }
@@ -402,12 +402,11 @@ public final class LawsLapse {
     private int fittingPeople(Sheet told) {
         int fitting = 0;
         for (int one = 0; one < now.people; one++) {
-            if (now.otherwise(told, one) == NONE) fitting |= 1 << one;
+            if (now.firstOtherwise(told, one) == NONE) fitting |= 1 << one;
         }
         return fitting;
     }
 
-    /** A part of a fraction in lowest terms, or NO. */
     private static long fraction(int above, int below, int part) {
         if (below == 0 || !within(part, 0, 1)) return NO;
         int common = commonDivisor(above, below);
@@ -424,7 +423,7 @@ public final class LawsLapse {
         return one;
     }
 
-    /** All that a republic is, now, in thought or as it was kept. */
+    /** One class for what is now, what is thought and what an IMAGE keeps, so that each is had by one copy. */
     private static final class Republic {
         private final Texts texts;
         private final int[] left = {2, 2, 2, 2, 2, 2, 2, 2};
@@ -479,7 +478,7 @@ public final class LawsLapse {
                 case SITS: return sits[of];
                 case SERVED: return served[of];
                 case KIND: return kind[of];
-                case CAN_DO: return deedsOf(of);
+                case CAN_DO: return deedsFor(of);
                 case ALIVE: return alive;
                 case BROKEN: return broken;
                 case COST: return cost;
@@ -540,7 +539,7 @@ public final class LawsLapse {
             return law < LAWS && (breaks[deed] & 1 << law) != 0;
         }
 
-        /** Whether all LAWS that a DEED breaks, and it breaks any, have but 1 year LEFT. */
+        /** A LAPSED LAW has no year LEFT, so it isn't one that has but 1. */
         private boolean breaksOnlyLast(int deed) {
             for (int law = 0; law < LAWS; law++) {
                 if ((breaks[deed] & 1 << law) != 0 && left[law] != 1) return false;
@@ -561,8 +560,7 @@ public final class LawsLapse {
             }
         }
 
-        /** For how many years one SITS by a DEED. */
-        private int sentence(int one, int deed) {
+        private int yearsFor(int one, int deed) {
             int v = texts.value(PART_SITS, this, one, deed);
             switch (kind[one]) {
                 case POLICEMAN: return 0;
@@ -578,8 +576,7 @@ public final class LawsLapse {
             return dares(one, deed) ? costs(one, deed) : NONE;
         }
 
-        /** The first DEED of which a SHEET tells otherwise. */
-        private int otherwise(Sheet told, int one) {
+        private int firstOtherwise(Sheet told, int one) {
             for (int deed = 0; deed < told.size && deed < DEEDS; deed++) {
                 if (told.cells[deed] != costsOrNone(one, deed)) return deed;
             }
@@ -590,8 +587,7 @@ public final class LawsLapse {
             return sits[one] == 0 && dares(one, deed);
         }
 
-        /** The DEEDS that one CAN do, as bits. */
-        private int deedsOf(int one) {
+        private int deedsFor(int one) {
             int able = 0;
             for (int deed = 0; deed < DEEDS; deed++) {
                 if (can(one, deed)) able |= 1 << deed;
@@ -603,16 +599,16 @@ public final class LawsLapse {
             broken |= breaks[deed] & alive;
         }
 
+        /** What it COSTS and for how long is told ahead, since both may hang on SERVED, which is 1 more then. */
         private void commit(int one, int deed) {
             int itsCosts = costs(one, deed);
-            int itsSentence = sentence(one, deed);
+            int itsYears = yearsFor(one, deed);
             breakBy(deed);
             cost = Math.min(MOST_COST, cost + itsCosts);
-            sits[one] = itsSentence;
+            sits[one] = itsYears;
             served[one] = Math.min(MOST_SERVED, served[one] + 1);
         }
 
-        /** Ends a YEAR: the LAWS that LAPSE by it, as bits. */
         private int endYear() {
             int were = alive;
             for (int law = 0; law < LAWS; law++) {
@@ -630,7 +626,6 @@ public final class LawsLapse {
             return were & ~alive;
         }
 
-        /** n YEARS: how many DEEDS are DONE in them. */
         private int passYears(int n) {
             int done = 0;
             for (int i = 0; i < n; i++) {
@@ -646,7 +641,7 @@ public final class LawsLapse {
             return done;
         }
 
-        /** The first DEED one CAN do that breaks any LAW that is ALIVE and not BROKEN. */
+        /** What a DEED breaks is looked at ahead of whether one DARES it: that is dearer to tell. */
         private int firstOfUse(int one) {
             if (sits[one] > 0) return NONE;
             for (int deed = 0; deed < DEEDS; deed++) {
@@ -687,7 +682,7 @@ public final class LawsLapse {
             return laws;
         }
 
-        /** COVER of a set of LAWS, or FEWEST: DEEDS as bits, or NONE. */
+        /** HARM, together, stays below 1000, so one weight tells both; of like ones the first has the least bits. */
         private int leastCover(int laws, boolean byHarm) {
             int found = NONE;
             int least = 0;
@@ -703,7 +698,6 @@ public final class LawsLapse {
             return found;
         }
 
-        /** The least HARM of all DEEDS that break a LAW. */
         private int leastHarm(int law) {
             int least = LET_GO_FREELY;
             for (int deed = 0; deed < DEEDS; deed++) {
@@ -713,11 +707,11 @@ public final class LawsLapse {
         }
     }
 
-    /** THE ROTA, sought among all ways in their order. */
+    /** The ways come in their order, so that of like ones the first is kept; what each needs is told once, ahead. */
     private static final class Rota {
         private final int[] able = new int[MOST_PEOPLE];
         private final int[] breaks = new int[DEEDS];
-        /** What a DEED COSTS by one, row by row of one's DEEDS. */
+        /** One's row behind another's, made with the object, so that no search makes any. */
         private final int[] costsBy = new int[MOST_PEOPLE * DEEDS];
         private int people;
         private int way;
@@ -730,7 +724,7 @@ public final class LawsLapse {
                 breaks[deed] = of.breaks[deed] & of.alive;
             }
             for (int one = 0; one < people; one++) {
-                able[one] = of.deedsOf(one);
+                able[one] = of.deedsFor(one);
                 for (int deed = 0; deed < DEEDS; deed++) {
                     costsBy[one * DEEDS + deed] = of.costs(one, deed);
                 }
@@ -739,7 +733,7 @@ public final class LawsLapse {
             place(this, 0, 0, 0, of.broken, 0);
         }
 
-        /** Gives a DEED or none to one and all behind, by what those ahead have: the ways come in their order. */
+        /** Static, since it calls itself; one's number is how deep it is, MOST_PEOPLE at most. */
         private static void place(Rota of, int one, int itsWay, int taken, int broken, int itsCosts) {
             if (one >= of.people || one >= MOST_PEOPLE) {
                 of.weigh(itsWay, Integer.bitCount(broken), itsCosts);
@@ -763,7 +757,7 @@ public final class LawsLapse {
         }
     }
 
-    /** The TEXTS as they were read: what stands behind its parts comes first, one int a TOKEN. */
+    /** TEXTS are kept with operands ahead of what joins them, so that to value one needs a stack and no recursion. */
     private static final class Texts {
         private final int[][] code = new int[MOST_TEXTS][MOST_BYTES];
         private final int[][] ends = new int[MOST_TEXTS][PARTS];
@@ -779,7 +773,6 @@ public final class LawsLapse {
             ends[0][PART_SITS] = 3;
         }
 
-        /** What a part of THE RULE tells of one and a DEED, within its bounds. */
         private int value(int part, Republic of, int one, int deed) {
             int[] row = code[of.rule];
             int[] itsEnds = ends[of.rule];
@@ -827,7 +820,7 @@ public final class LawsLapse {
         }
     }
 
-    /** THE TAPE, and how a TEXT is read from it: token is what stands at place, and a FAULT is where reading stays. */
+    /** Token is what stands at place, and nothing is read ahead of it: so a FAULT is wherever reading stays. */
     private static final class Tape {
         private final int[] bytes = new int[MOST_BYTES];
         private int size;
@@ -843,7 +836,6 @@ public final class LawsLapse {
             size++;
         }
 
-        /** Reads a whole TEXT into a row of code and where its parts end; false: a FAULT, at place. */
         private boolean reads(int[] itsCode, int[] ends) {
             code = itsCode;
             written = 0;
@@ -859,7 +851,7 @@ public final class LawsLapse {
             return token == END;
         }
 
-        /** E, while so many of ( not - are open. */
+        /** E. How many of ( not - are open is handed on: it bounds the recursion, too. */
         private boolean either(int open) {
             if (!both(open)) return false;
             for (int i = 0; i < MOST_BYTES && token == OR; i++) {
@@ -962,7 +954,6 @@ public final class LawsLapse {
             written++;
         }
 
-        /** Goes on to the next TOKEN. */
         private void step() {
             while (behind < size && (bytes[behind] == ' ' || bytes[behind] == '\n')) behind++;
             place = behind;
@@ -1036,7 +1027,7 @@ public final class LawsLapse {
         }
     }
 
-    /** A row of numbers of one sort, or missing. */
+    /** All sorts have ints as cells, put in as their sort would hold them: so one row serves for each. */
     private static final class Sheet {
         private int sort = NONE;
         private int size;
@@ -1050,7 +1041,7 @@ public final class LawsLapse {
             }
         }
 
-        /** Whether n items from this one on stand here. */
+        /** Told by what is left of size, since from + n could wrap. */
         private boolean has(int from, int n) {
             return from >= 0 && n >= 0 && from <= size && n <= size - from;
         }

@@ -60,6 +60,16 @@ public final class EdgeBestTest {
         fewest(y, 0, 0, 0);
     }
 
+    @Says(of = "Terms 2", text = "COVER (a set): of all sets of DEEDS that break, together, all of it")
+    static void coverByMoreThanIsAsked() {
+        LawsLapse x = deeds(1 + 2 + 4, 10, 8 + 16, 7);
+        covers(x, 1, 1, 10);
+        fewest(x, 2 + 4, 1, 1);
+        covers(x, 16, 2, 7);
+        covers(x, 2 + 8, 1 + 2, 17);
+        fewest(x, 2 + 8, 1 + 2, 2);
+    }
+
     @Says(of = "Terms 2", text = "of like ones that of fewest; of these the least as bits; NONE. FEWEST")
     static void coverOfLikeOnes() {
         covers(deeds(1, 5, 2, 5, 3, 10), 3, 4, 10);

@@ -417,6 +417,19 @@ public final class EdgeLawsTest {
         Due.is(1023, x.told(0, 9), "told(0, 9), if yes");
     }
 
+    @Says(of = "Terms 1", text = "THIEF: always, if it breaks none that is ALIVE, else if yes.")
+    static void thiefDaresByAliveNotByBroken() {
+        LawsLapse x = Given.ruled("dares laws<2;harms 1;sits 0;", CITIZEN, 0, THIEF, 0);
+        Given.deeds(x, 1, 0, 2, 0, 1 + 2, 0);
+        x.does(0, 0);
+        Due.is(1 + 2, x.does(0, 1), "does(0, 1): LAWS 0 and 1 are BROKEN");
+        Due.is(0, x.asks(1, 2, 0), "asks(1, 2, 0): all it breaks are BROKEN, and so ALIVE");
+        x.set(0, 0, 0);
+        Due.is(0, x.asks(1, 2, 0), "asks(1, 2, 0): LAW 1 is ALIVE");
+        x.set(0, 1, 0);
+        Due.is(1, x.asks(1, 2, 0), "asks(1, 2, 0): neither is ALIVE");
+    }
+
     // ---- the Terms: what DEEDS cost by KINDS
 
     /** What DEED 9, which breaks two LAWS, of which one is LAPSED, COSTS the second of PEOPLE by what harms tells. */
